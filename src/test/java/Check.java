@@ -1,0 +1,61 @@
+/** Counts and prints the answers of a test that are not the ones that are due. */
+final class Check {
+    interface Call {
+        long get();
+    }
+
+    private static int wrong = 0;
+    private static int asked = 0;
+
+    private Check() {
+    }
+
+    static void due(String what, long want, long got) {
+        asked++;
+        if (want != got) {
+            wrong++;
+            System.out.println(what + " answered " + got + ", due is " + want);
+        }
+    }
+
+    static void due(String what, boolean want, boolean got) {
+        due(what, want ? 1 : 0, got ? 1 : 0);
+    }
+
+    static void due(String what, String want, String got) {
+        asked++;
+        if (!want.equals(got)) {
+            wrong++;
+            System.out.println(what + " answered " + got + ", due is " + want);
+        }
+    }
+
+    /** An answer as a text; the name of the exception if the call throws one. */
+    static String answer(Call call) {
+        try {
+            return Long.toString(call.get());
+        } catch (RuntimeException e) {
+            return e.getClass().getSimpleName();
+        }
+    }
+
+    static void throwsIndex(String what, Call call) {
+        due(what, "IndexOutOfBoundsException", answer(call));
+    }
+
+    static void throwsArgument(String what, Call call) {
+        due(what, "IllegalArgumentException", answer(call));
+    }
+
+    static void throwsState(String what, Call call) {
+        due(what, "IllegalStateException", answer(call));
+    }
+
+    /** Ends a test: with exit code 1 if an answer was wrong, or none was asked for. */
+    static void end(String test) {
+        System.out.println(test + ": " + asked + " answers, " + wrong + " wrong");
+        if (wrong > 0 || asked == 0) {
+            System.exit(1);
+        }
+    }
+}
