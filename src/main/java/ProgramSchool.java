@@ -489,9 +489,11 @@ public final class ProgramSchool {
         }
 
         int takeLast() {
-            int item = last();
-            size = size > 0 ? size - 1 : 0;
-            return item;
+            if (size < 1 || size > items.length) {
+                return 0;
+            }
+            size--;
+            return items[size];
         }
 
         void cut(int newSize) {
@@ -852,10 +854,11 @@ public final class ProgramSchool {
         private Program program;
         private Tokens tokens;
         private int at;
+        private int end;
         private int level;
         private boolean isInDef;
         private final Row outerNames = new Row(MAX_VARIABLES);
-        private final Row defNames = new Row(MAX_VARIABLES);
+        private final Row innerNames = new Row(MAX_VARIABLES);
         private final Row callTokens = new Row(MAX_SIGNS / 2);
         private final Row callArguments = new Row(MAX_SIGNS / 2);
         private final Row callCodes = new Row(MAX_SIGNS / 2);
@@ -870,6 +873,7 @@ public final class ProgramSchool {
             tokens = text.tokens;
             program.begin();
             at = 0;
+            end = tokens.last();
             level = 0;
             isInDef = false;
             outerNames.empty();
@@ -880,11 +884,24 @@ public final class ProgramSchool {
                 statement();
             }
             program.addCode(Machine.STOP, 0);
+            nameFault();
             linkCalls();
+        }
+
+        /** What cannot stand at a place may be no token at all, or no number. */
+        private void nameFault() {
+            if (program.fault == UNEXPECTED) {
+                int kind = tokens.kinds.get(program.faultToken);
+                program.fault = kind == Tokens.BAD_SIGN ? SIGN : kind == Tokens.BAD_NUMBER ? NUMBER : UNEXPECTED;
+            }
         }
 
         private int kind() {
             return tokens.kinds.get(at);
+        }
+
+        private Row names() {
+            return isInDef ? innerNames : outerNames;
         }
 
         /** Keeps the first fault only: what is met behind it is none. */
@@ -893,19 +910,14 @@ public final class ProgramSchool {
                 program.fault = fault;
                 program.faultToken = token;
             }
-            at = tokens.last();
-        }
-
-        private void refuseToken() {
-            int kind = kind();
-            refuse(kind == Tokens.BAD_SIGN ? SIGN : kind == Tokens.BAD_NUMBER ? NUMBER : UNEXPECTED, at);
+            at = end;
         }
 
         private void expect(int kind) {
-            if (kind() == kind) {
+            if (tokens.kinds.get(at) == kind) {
                 at++;
             } else {
-                refuseToken();
+                refuse(UNEXPECTED, at);
             }
         }
 
@@ -916,11 +928,6 @@ public final class ProgramSchool {
                 level++;
                 at++;
             }
-        }
-
-        private void closeLevel(int kind) {
-            expect(kind);
-            level--;
         }
 
         private void statement() {
@@ -955,7 +962,7 @@ public final class ProgramSchool {
                     returnStatement();
                     break;
                 default:
-                    refuseToken();
+                    refuse(UNEXPECTED, at);
             }
             program.endPart(part, at);
         }
@@ -965,7 +972,7 @@ public final class ProgramSchool {
                 call();
                 program.addCode(Machine.DROP, 0);
             } else {
-                int variable = variable(isInDef ? defNames : outerNames);
+                int variable = variable(names());
                 expect(Tokens.BECOMES);
                 expression(1);
                 program.addCode(Machine.STORE, variable);
@@ -993,10 +1000,10 @@ public final class ProgramSchool {
             if (kind() == Tokens.ELSE) {
                 int other = at;
                 at++;
-                int end = program.addCode(Machine.JUMP, 0);
+                int behind = program.addCode(Machine.JUMP, 0);
                 program.setOperand(otherwise, program.codeCount());
                 block(other);
-                program.setOperand(end, program.codeCount());
+                program.setOperand(behind, program.codeCount());
             } else {
                 program.setOperand(otherwise, program.codeCount());
             }
@@ -1007,15 +1014,15 @@ public final class ProgramSchool {
             at++;
             int ask = program.addCode(Machine.BEGIN, 0);
             expression(1);
-            int end = program.addCode(Machine.JUMP_IF_ZERO, 0);
+            int behind = program.addCode(Machine.JUMP_IF_ZERO, 0);
             block(owner);
             program.addCode(Machine.JUMP, ask);
-            program.setOperand(end, program.codeCount());
+            program.setOperand(behind, program.codeCount());
         }
 
         private void returnStatement() {
             if (!isInDef) {
-                refuseToken();
+                refuse(UNEXPECTED, at);
                 return;
             }
             at++;
@@ -1027,12 +1034,12 @@ public final class ProgramSchool {
         private void defStatement() {
             int owner = at;
             if (level > 0) {
-                refuseToken();
+                refuse(UNEXPECTED, at);
                 return;
             }
             at++;
             if (kind() != Tokens.NAME) {
-                refuseToken();
+                refuse(UNEXPECTED, at);
                 return;
             }
             if (program.defNamed(tokens.values.get(at)) != NONE) {
@@ -1044,7 +1051,7 @@ public final class ProgramSchool {
             at++;
             int over = program.addCode(Machine.JUMP, 0);
             parameters();
-            program.setDef(def, defNames.size(), at, program.codeCount());
+            program.setDef(def, innerNames.size(), at, program.codeCount());
             isInDef = true;
             block(owner);
             isInDef = false;
@@ -1056,9 +1063,9 @@ public final class ProgramSchool {
         }
 
         private void parameters() {
-            defNames.empty();
+            innerNames.empty();
             if (kind() != Tokens.OPEN) {
-                refuseToken();
+                refuse(UNEXPECTED, at);
                 return;
             }
             openLevel();
@@ -1069,23 +1076,24 @@ public final class ProgramSchool {
                     parameter();
                 }
             }
-            closeLevel(Tokens.CLOSE);
+            expect(Tokens.CLOSE);
+            level--;
         }
 
         private void parameter() {
             if (kind() != Tokens.NAME) {
-                refuseToken();
-            } else if (defNames.placeOf(tokens.values.get(at)) != NONE) {
+                refuse(UNEXPECTED, at);
+            } else if (innerNames.placeOf(tokens.values.get(at)) != NONE) {
                 refuse(DOUBLE, at);
             } else {
-                variable(defNames);
+                variable(innerNames);
             }
         }
 
         private void block(int owner) {
             int start = at;
             if (kind() != Tokens.BLOCK) {
-                refuseToken();
+                refuse(UNEXPECTED, at);
                 return;
             }
             openLevel();
@@ -1095,7 +1103,8 @@ public final class ProgramSchool {
             // The walker finds behind a block, and from its end to the statement that it is of.
             tokens.values.set(start, at + 1);
             tokens.values.set(at, owner);
-            closeLevel(Tokens.BLOCK_END);
+            expect(Tokens.BLOCK_END);
+            level--;
         }
 
         /** An expression of a level: some of the next one with marks of this level between them. */
@@ -1143,17 +1152,18 @@ public final class ProgramSchool {
                 case Tokens.OPEN:
                     openLevel();
                     expression(1);
-                    closeLevel(Tokens.CLOSE);
+                    expect(Tokens.CLOSE);
+                    level--;
                     break;
                 case Tokens.NAME:
                     if (tokens.kinds.get(at + 1) == Tokens.OPEN) {
                         call();
                     } else {
-                        program.addCode(Machine.LOAD, variable(isInDef ? defNames : outerNames));
+                        program.addCode(Machine.LOAD, variable(names()));
                     }
                     break;
                 default:
-                    refuseToken();
+                    refuse(UNEXPECTED, at);
             }
         }
 
@@ -1184,7 +1194,8 @@ public final class ProgramSchool {
                     count++;
                 }
             }
-            closeLevel(Tokens.CLOSE);
+            expect(Tokens.CLOSE);
+            level--;
             callArguments.set(call, count);
             callCodes.set(call, program.addCode(Machine.CALL, 0));
         }

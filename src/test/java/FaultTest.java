@@ -17,6 +17,8 @@ public final class FaultTest {
         calls();
         firstOfSeveral();
         changes();
+        readAnew();
+        fullDrafts();
         parts();
         Check.end("FaultTest");
     }
@@ -357,6 +359,41 @@ public final class FaultTest {
         Check.due("parts", 5, school.draftParts());
         school.write(0L);
         Check.due("fault after write of nothing", NO_FAULT, school.fault());
+    }
+
+    /** Nothing of a text that was read is left for the next one. */
+    private static void readAnew() {
+        ProgramSchool school = new ProgramSchool();
+        String[] faulty = {"a=b;c=d;e=f;g=h;def x(a,b){if 1{out ((((1$", "def f(a,b,c,d,e,f,g,h){i", "f(1,g(2", "f(((((((((1"};
+        for (String text : faulty) {
+            Texts.set(school, text);
+            Check.due(text + " has a fault", true, school.fault() != NO_FAULT);
+            Texts.set(school, "return 1;");
+            Check.due("fault of a return behind " + text, UNEXPECTED, school.fault());
+            Texts.set(school, text);
+            Check.due(text + " has a fault", true, school.fault() != NO_FAULT);
+            Texts.set(school, "i=j;k=l;m=n;o=p;out " + "(".repeat(8) + "1" + ")".repeat(8) + ";def f(){}f();");
+            Check.due("fault of a program behind " + text, NO_FAULT, school.fault());
+            Check.due("parts of a program behind " + text, 7, school.draftParts());
+            Check.due("trial of a program behind " + text, ProgramSchool.DONE, school.trial(99, 0, 0));
+            Check.due("trialByTree of a program behind " + text, ProgramSchool.DONE, school.trialByTree(99, 0, 0));
+        }
+    }
+
+    private static void fullDrafts() {
+        fault("a=1;".repeat(74) + "a=1+", UNEXPECTED, 300);
+        fault("a=1;".repeat(74) + "a=1;", NO_FAULT, -1);
+        fault(" ".repeat(299) + "a", UNEXPECTED, 300);
+        fault(" ".repeat(299) + "$", SIGN, 299);
+        fault("a".repeat(299) + "b", UNEXPECTED, 300);
+        fault("{".repeat(300), UNEXPECTED, 0);
+        fault("f();".repeat(75), UNKNOWN, 0);
+        fault("out 1" + "+1".repeat(147) + ";", NO_FAULT, -1);
+        fault("out 1" + "|1".repeat(147) + ";", SIGN, 5);
+        fault("f(" + "1,".repeat(148) + "1;", UNEXPECTED, 299);
+        fault("f(" + "1,".repeat(147) + "1);", UNKNOWN, 0);
+        fault("f(f(f(f(f(f(f(f()))))))),1);".repeat(1), UNEXPECTED, 24);
+        fault("f(f(f(f(f(f(f(f()))))))),1);".substring(0, 24).concat(";").repeat(12), UNKNOWN, 0);
     }
 
     private static void parts() {
