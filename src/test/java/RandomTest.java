@@ -23,6 +23,13 @@ public final class RandomTest {
             run(new Generator(-seed * 1000003L - i));
         }
         System.out.println(seen);
+        if (texts >= TEXTS && runs >= RUNS) {
+            checkSeen();
+        }
+        Check.end("RandomTest");
+    }
+
+    private static void checkSeen() {
         for (String call : List.of("hand", "withdraw", "accuse", "clear")) {
             Check.due(call + " that throws was seen", true, seen.containsKey(call + " throws"));
             Check.due(call + " that does not throw was seen", true, seen.containsKey(call + " other"));
@@ -33,7 +40,6 @@ public final class RandomTest {
         for (int i = 0; i <= ProgramSchool.DEPTH; i++) {
             Check.due("end " + i + " was seen", true, seen.containsKey("end " + i));
         }
-        Check.end("RandomTest");
     }
 
     private static void saw(String what) {
