@@ -4,6 +4,7 @@ public final class AnswerTest {
 
     public static void main(String[] args) {
         hand();
+        nothingYet();
         full();
         refusedPlaces();
         ends();
@@ -40,6 +41,29 @@ public final class AnswerTest {
         Check.due("parts of the first", 1, school.parts(0));
     }
 
+    private static void nothingYet() {
+        ProgramSchool school = Texts.school("out 1;");
+        Check.throwsIndex("best without exercises", () -> school.best(0, 0));
+        Check.throwsIndex("passed without exercises", () -> school.passed(0, 0));
+        refused(school, 0, 0);
+        school.addExercise(10, 0);
+        Check.throwsIndex("passed without tests", () -> school.passed(0, 0));
+        Check.due("best without answers", ProgramSchool.NONE, school.best(0, 0));
+        refused(school, 0, 0);
+        school.addTest(0, 1, 0, 0, 1, 1, 0);
+        Check.due("passed without answers", 0, school.passed(0, 0));
+        refused(school, 0, 0);
+    }
+
+    /** All calls with an answer that there is not. */
+    private static void refused(ProgramSchool school, int place, int test) {
+        Check.throwsIndex("passes", () -> school.passes(place, test) ? 1 : 0);
+        Check.throwsIndex("endOf", () -> school.endOf(place, test));
+        Check.throwsIndex("points", () -> school.points(place));
+        Check.throwsIndex("mark", () -> school.mark(place));
+        Check.throwsIndex("markAnew", () -> school.markAnew(place));
+    }
+
     private static void full() {
         ProgramSchool school = Texts.school("out 1;");
         school.addExercise(10, 0);
@@ -54,6 +78,14 @@ public final class AnswerTest {
         Check.due("passed by all", 30, school.passed(0, 0));
         Check.due("common of the last two", 1, school.common(28, 29));
         Check.due("all marks change", 30, school.withdraw(0, 0));
+        refused(school, 30, 0);
+        for (int i = 1; i < 8; i++) {
+            Check.due("one more test", i, school.addTest(0, 1, 0, 0, 1, 1, 0));
+        }
+        Check.due("the last test", true, school.passes(29, 7));
+        Check.throwsIndex("passes of a 9th test", () -> school.passes(29, 8) ? 1 : 0);
+        Check.throwsIndex("endOf of a 9th test", () -> school.endOf(29, 8));
+        Check.throwsIndex("passed of a 9th test", () -> school.passed(0, 8));
     }
 
     private static void refusedPlaces() {
@@ -66,11 +98,7 @@ public final class AnswerTest {
                 school.hand(0, 0);
                 continue;
             }
-            Check.throwsIndex("passes", () -> school.passes(place, 0) ? 1 : 0);
-            Check.throwsIndex("endOf", () -> school.endOf(place, 0));
-            Check.throwsIndex("points", () -> school.points(place));
-            Check.throwsIndex("mark", () -> school.mark(place));
-            Check.throwsIndex("markAnew", () -> school.markAnew(place));
+            refused(school, place, 0);
             Check.throwsIndex("passed without such a test", () -> school.passed(0, place));
             Check.throwsIndex("endOf without such a test", () -> school.endOf(0, place));
             Check.throwsIndex("passes without such a test", () -> school.passes(0, place) ? 1 : 0);

@@ -35,8 +35,16 @@ final class Check {
         try {
             return Long.toString(call.get());
         } catch (RuntimeException e) {
-            return e.getClass().getSimpleName();
+            return (isThrownByCode(e) ? "" : "the machine's ") + e.getClass().getSimpleName();
         }
+    }
+
+    /** The program has to throw itself: neither the library nor the machine may throw in it. */
+    private static boolean isThrownByCode(RuntimeException e) {
+        StackTraceElement[] trace = e.getStackTrace();
+        String message = e.getMessage() == null ? "" : e.getMessage();
+        return trace.length > 0 && !trace[0].getClassName().startsWith("java.")
+                && !trace[0].getClassName().startsWith("jdk.") && !message.startsWith("Index ");
     }
 
     static void throwsIndex(String what, Call call) {

@@ -3,6 +3,7 @@ public final class DeskTest {
     private static final int LEAST = Integer.MIN_VALUE, GREATEST = Integer.MAX_VALUE;
 
     public static void main(String[] args) {
+        noAnswers();
         refusedPlaces();
         alike();
         common();
@@ -24,19 +25,30 @@ public final class DeskTest {
         return school;
     }
 
+    private static void noAnswers() {
+        refused(new ProgramSchool(), 0, 0);
+        refused(school(), 0, 0);
+        refused(school(""), 1, 0);
+    }
+
     private static void refusedPlaces() {
         ProgramSchool school = school("out 1;", "out 1;");
         for (int place : new int[] {-1, 2, LEAST, GREATEST}) {
-            Check.throwsIndex("parts", () -> school.parts(place));
-            Check.throwsIndex("common", () -> school.common(place, 0));
-            Check.throwsIndex("common with", () -> school.common(0, place));
-            Check.throwsIndex("likeness", () -> school.likeness(place, 0));
-            Check.throwsIndex("likeness with", () -> school.likeness(0, place));
-            Check.throwsIndex("accuse", () -> school.accuse(place, 0));
-            Check.throwsIndex("accuse because of", () -> school.accuse(1, place));
-            Check.throwsIndex("clear", () -> school.clear(place));
-            Check.throwsIndex("doubt", () -> school.doubt(place));
+            refused(school, place, 1);
         }
+    }
+
+    /** All calls with an answer that there is not. */
+    private static void refused(ProgramSchool school, int place, int other) {
+        Check.throwsIndex("parts", () -> school.parts(place));
+        Check.throwsIndex("common", () -> school.common(place, other));
+        Check.throwsIndex("common with", () -> school.common(other, place));
+        Check.throwsIndex("likeness", () -> school.likeness(place, other));
+        Check.throwsIndex("likeness with", () -> school.likeness(other, place));
+        Check.throwsIndex("accuse", () -> school.accuse(place, other));
+        Check.throwsIndex("accuse because of", () -> school.accuse(other, place));
+        Check.throwsIndex("clear", () -> school.clear(place));
+        Check.throwsIndex("doubt", () -> school.doubt(place));
     }
 
     private static void pair(String one, String other, int common, int likeness) {
