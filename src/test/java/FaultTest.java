@@ -3,6 +3,11 @@ public final class FaultTest {
     private static final int NO_FAULT = ProgramSchool.NO_FAULT, SIGN = ProgramSchool.SIGN, NUMBER = ProgramSchool.NUMBER,
             UNEXPECTED = ProgramSchool.UNEXPECTED, NESTED = ProgramSchool.NESTED, NAMES = ProgramSchool.NAMES,
             DOUBLE = ProgramSchool.DOUBLE, UNKNOWN = ProgramSchool.UNKNOWN, COUNT = ProgramSchool.COUNT;
+    // An object is good for 512 calls; each text takes some 40.
+    private static final int TEXTS_IN_ONE = 10;
+
+    private static ProgramSchool used = new ProgramSchool();
+    private static int texts;
 
     public static void main(String[] args) {
         faultless();
@@ -18,6 +23,7 @@ public final class FaultTest {
         firstOfSeveral();
         changes();
         readAnew();
+        countedAnew();
         fullDrafts();
         parts();
         Check.end("FaultTest");
@@ -35,6 +41,18 @@ public final class FaultTest {
             Check.throwsState("trial of " + text, () -> school.trial(1, 0, 0));
             Check.throwsState("trialByTree of " + text, () -> school.trialByTree(1, 0, 0));
         }
+        faultBehindOthers(text, fault, place);
+    }
+
+    /** In an object that has had other texts, of which nothing may be left. */
+    private static void faultBehindOthers(String text, int fault, int place) {
+        texts++;
+        if (texts % TEXTS_IN_ONE == 0) {
+            used = new ProgramSchool();
+        }
+        Texts.set(used, text);
+        Check.due("fault behind others of " + text, fault, used.fault());
+        Check.due("faultPlace behind others of " + text, place, used.faultPlace());
     }
 
     private static void fine(String text, int parts) {
@@ -377,6 +395,23 @@ public final class FaultTest {
             Check.due("parts of a program behind " + text, 7, school.draftParts());
             Check.due("trial of a program behind " + text, ProgramSchool.DONE, school.trial(99, 0, 0));
             Check.due("trialByTree of a program behind " + text, ProgramSchool.DONE, school.trialByTree(99, 0, 0));
+        }
+    }
+
+    /** What was counted for a text, levels and names, is not counted for the next one. */
+    private static void countedAnew() {
+        ProgramSchool school = new ProgramSchool();
+        for (int i = 0; i < 3; i++) {
+            Texts.set(school, "out " + "(".repeat(9) + "1" + ")".repeat(9) + ";");
+            Check.due("a 9th level", NESTED, school.fault());
+            Check.due("place of the 9th level", 12, school.faultPlace());
+            Texts.set(school, "if 1{def f(){}}");
+            Check.due("a def in a block", UNEXPECTED, school.fault());
+            Check.due("place of the def in a block", 5, school.faultPlace());
+            Texts.set(school, "a=1;b=1;c=1;d=1;e=1;f=1;g=1;h=1;");
+            Check.due("eight names", NO_FAULT, school.fault());
+            Texts.set(school, "def x(a,b,c,d,e,f,g,h){}i=1;j=1;k=1;l=1;m=1;n=1;o=1;p=1;");
+            Check.due("eight names besides others of a def", NO_FAULT, school.fault());
         }
     }
 

@@ -10,7 +10,12 @@ public final class RandomTest {
     private static final int RUNS = 300;
     private static final int CALLS = 511;
 
+    // An object is good for 512 calls; a text takes up to 42.
+    private static final int TEXTS_IN_ONE = 10;
+
     private static final TreeMap<String, Integer> seen = new TreeMap<>();
+    private static ProgramSchool used = new ProgramSchool();
+    private static int usedTexts;
 
     public static void main(String[] args) {
         int texts = args.length > 0 ? Integer.parseInt(args[0]) : TEXTS;
@@ -58,12 +63,27 @@ public final class RandomTest {
         Check.due("faultPlace of " + text, model.faultPlace(), school.faultPlace());
         saw("fault " + model.fault());
         Check.due("draftParts of " + text, Check.answer(model::draftParts), Check.answer(school::draftParts));
+        textBehindOthers(text, model);
         if (model.fault() != ProgramSchool.NO_FAULT) {
             return;
         }
         for (int i = 0; i < 4; i++) {
             int fuel = i == 0 ? 5000 : generator.below(generator.chance(50) ? 30 : 300);
             trial(text, model, school, fuel, generator.below(7) - 2, generator.random.nextInt());
+        }
+    }
+
+    /** In an object that has had other texts, of which nothing may be left. */
+    private static void textBehindOthers(String text, Model model) {
+        usedTexts++;
+        if (usedTexts % TEXTS_IN_ONE == 0) {
+            used = new ProgramSchool();
+        }
+        Texts.set(used, text);
+        Check.due("fault behind others of " + text, model.fault(), used.fault());
+        Check.due("faultPlace behind others of " + text, model.faultPlace(), used.faultPlace());
+        if (model.fault() == ProgramSchool.NO_FAULT) {
+            Check.due("trial behind others of " + text, model.trial(99, 5, 7), used.trial(99, 5, 7));
         }
     }
 
