@@ -6,15 +6,31 @@ final class Check {
 
     private static int wrong = 0;
     private static int asked = 0;
+    private static String topic = "";
 
     private Check() {
+    }
+
+    /** What the answers that follow are about: it is told with those that are wrong. */
+    static void about(String newTopic) {
+        topic = newTopic;
+    }
+
+    private static void wrong(String what) {
+        wrong++;
+        System.out.println((topic.isEmpty() ? "" : "[" + topic + "] ") + what);
+    }
+
+    /** For a test that was ended by an exception, which no call of it may throw. */
+    static void ended(RuntimeException e) {
+        asked++;
+        wrong("was ended by " + e + " at " + (e.getStackTrace().length > 0 ? e.getStackTrace()[0] : "nowhere"));
     }
 
     static void due(String what, long want, long got) {
         asked++;
         if (want != got) {
-            wrong++;
-            System.out.println(what + " answered " + got + ", due is " + want);
+            wrong(what + " answered " + got + ", due is " + want);
         }
     }
 
@@ -25,8 +41,7 @@ final class Check {
     static void due(String what, String want, String got) {
         asked++;
         if (!want.equals(got)) {
-            wrong++;
-            System.out.println(what + " answered " + got + ", due is " + want);
+            wrong(what + " answered " + got + ", due is " + want);
         }
     }
 

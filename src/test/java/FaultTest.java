@@ -29,7 +29,8 @@ public final class FaultTest {
         Check.end("FaultTest");
     }
 
-    private static void fault(String text, int fault, int place) {
+    /** A text with the fault and the place that are due. */
+    static void fault(String text, int fault, int place) {
         ProgramSchool school = Texts.school(text);
         Check.due("length of " + text, text.length(), school.length());
         Check.due("fault of " + text, fault, school.fault());
@@ -55,7 +56,8 @@ public final class FaultTest {
         Check.due("faultPlace behind others of " + text, place, used.faultPlace());
     }
 
-    private static void fine(String text, int parts) {
+    /** A text without faults. */
+    static void fine(String text, int parts) {
         fault(text, NO_FAULT, ProgramSchool.NONE);
         Check.due("draftParts of " + text, parts, Texts.school(text).draftParts());
     }

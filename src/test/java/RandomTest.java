@@ -8,14 +8,14 @@ import java.util.TreeMap;
 public final class RandomTest {
     private static final int TEXTS = 60000;
     private static final int RUNS = 300;
-    private static final int CALLS = 511;
-
-    // An object is good for 512 calls; a text takes up to 42.
+    // An object is good for 512 calls; a text takes up to 42, and a turn of a run up to 11.
+    private static final int CALLS = 501;
     private static final int TEXTS_IN_ONE = 10;
 
     private static final TreeMap<String, Integer> seen = new TreeMap<>();
     private static ProgramSchool used = new ProgramSchool();
     private static int usedTexts;
+    private static int calls;
 
     public static void main(String[] args) {
         int texts = args.length > 0 ? Integer.parseInt(args[0]) : TEXTS;
@@ -114,6 +114,7 @@ public final class RandomTest {
         Model model = new Model();
         ProgramSchool school = new ProgramSchool();
         StringBuilder log = new StringBuilder();
+        calls = 0;
         String[] texts = new String[3];
         for (int i = 0; i < texts.length; i++) {
             texts[i] = generator.text(10);
@@ -124,21 +125,26 @@ public final class RandomTest {
             int due = generator.below(6);
             same("addExercise " + fuel + " " + due, log, () -> model.addExercise(fuel, due), () -> school.addExercise(fuel, due));
         }
-        for (int calls = 2; calls < CALLS; calls++) {
+        // A turn may be without a call, so they have a bound of their own.
+        for (int turns = 0; turns < CALLS && calls < CALLS; turns++) {
             if (generator.chance(12)) {
-                String text = generator.chance(70) ? simple(generator) : texts[generator.below(texts.length)];
-                calls += 2 + text.length() / 8;
-                model.wipe();
-                school.wipe();
-                for (int i = 0; i < text.length(); i += 8) {
-                    model.write(Texts.packed(text, i));
-                    school.write(Texts.packed(text, i));
-                }
-                log.append(" text ").append(text);
-                continue;
+                write(generator.chance(70) ? simple(generator) : texts[generator.below(texts.length)], model, school, log);
+            } else {
+                call(generator, model, school, log);
             }
-            call(generator, model, school, log);
         }
+    }
+
+    private static void write(String text, Model model, ProgramSchool school, StringBuilder log) {
+        model.wipe();
+        school.wipe();
+        calls++;
+        for (int i = 0; i < text.length(); i += 8) {
+            model.write(Texts.packed(text, i));
+            school.write(Texts.packed(text, i));
+            calls++;
+        }
+        log.append(" text ").append(text);
     }
 
     private static String simple(Generator generator) {
@@ -242,6 +248,7 @@ public final class RandomTest {
     private static void same(String call, StringBuilder log, Check.Call model, Check.Call school) {
         String want = Check.answer(model);
         String got = Check.answer(school);
+        calls++;
         log.append(" | ").append(call);
         Check.due(want.equals(got) ? call : log.toString(), want, got);
         if (call.startsWith("accuse") || call.startsWith("clear") || call.startsWith("withdraw") || call.startsWith("hand")) {

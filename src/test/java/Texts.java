@@ -35,7 +35,8 @@ final class Texts {
 
     static String draft(ProgramSchool school) {
         StringBuilder text = new StringBuilder();
-        for (int i = 0; i < school.length(); i++) {
+        int length = school.length();
+        for (int i = 0; i < length; i++) {
             text.append(school.signAt(i));
         }
         return text.toString();

@@ -29,7 +29,7 @@ public final class TrialTest {
     }
 
     /** A trial in both ways: how it ends, what fuel is left, and the outputs, with blanks between them. */
-    private static void run(String text, int fuel, int first, int second, int end, int left, String outputs) {
+    static void run(String text, int fuel, int first, int second, int end, int left, String outputs) {
         ProgramSchool school = Texts.school(text);
         Check.due("fault of " + text, ProgramSchool.NO_FAULT, school.fault());
         for (int way = 0; way < 2; way++) {
@@ -45,7 +45,7 @@ public final class TrialTest {
     }
 
     /** A program that is DONE, with the fuel that it takes. */
-    private static void takes(String text, int fuel, String outputs) {
+    static void takes(String text, int fuel, String outputs) {
         run(text, 1000, 0, 0, DONE, 1000 - fuel, outputs);
         run(text, fuel, 0, 0, DONE, 0, outputs);
         if (fuel > 0) {
