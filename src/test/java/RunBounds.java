@@ -72,8 +72,8 @@ final class RunBounds {
 
     private static void trial(Trial trial) {
         Sentence.holds("- `fuel`: 0 to 5000", () -> trialFuel(trial));
-        Sentence.holds("- `first`: the first input", () -> trialInputs(trial));
-        Sentence.holds("- `second`: the second input", () -> trialInputs(trial));
+        Sentence.holds("- `first`: the first input", () -> firstInput(trial));
+        Sentence.holds("- `second`: the second input", () -> secondInput(trial));
         Sentence.holds("Returns how the run ends.", () -> trialEnds(trial));
         Sentence.holds("Throws `IllegalArgumentException` if fuel is out of range", () -> trialRefusesFuel(trial));
         Sentence.holds("Throws `IllegalStateException` if the draft has a fault", () -> trialRefusesFault(trial));
@@ -528,12 +528,24 @@ final class RunBounds {
         Check.due("5000 for 5001", FUEL, trial.run(school, 5000, 0, 0));
     }
 
-    private static void trialInputs(Trial trial) {
-        for (int[] inputs : new int[][] {{1, 2}, {0, -1}, {LEAST, GREATEST}, {GREATEST, LEAST}}) {
-            ProgramSchool school = Texts.school("out in;out in;");
-            Check.due("trial", DONE, trial.run(school, 9, inputs[0], inputs[1]));
-            Check.due("the first input", inputs[0], school.outputAt(0));
-            Check.due("the second input", inputs[1], school.outputAt(1));
+    private static void firstInput(Trial trial) {
+        for (int first : new int[] {0, 1, -1, 7, LEAST, GREATEST}) {
+            ProgramSchool school = Texts.school("out in;");
+            Check.due("trial with one input read", DONE, trial.run(school, 9, first, 5));
+            Check.due("the first input", first, school.outputAt(0));
+            Texts.set(school, "a=in;b=in;out a;");
+            Check.due("trial with both read", DONE, trial.run(school, 9, first, 5));
+            Check.due("the first input", first, school.outputAt(0));
+        }
+    }
+
+    private static void secondInput(Trial trial) {
+        for (int second : new int[] {0, 1, -1, 7, LEAST, GREATEST}) {
+            ProgramSchool school = Texts.school("a=in;out in;");
+            Check.due("trial", DONE, trial.run(school, 9, 5, second));
+            Check.due("the second input", second, school.outputAt(0));
+            Texts.append(school, "out in;");
+            Check.due("there is no third one", INPUT, trial.run(school, 9, 5, second));
         }
     }
 
