@@ -1,13 +1,18 @@
+import java.io.IOException;
 import java.lang.reflect.Constructor;
 import java.lang.reflect.Field;
 import java.lang.reflect.Method;
 import java.lang.reflect.Modifier;
+import java.nio.file.Files;
+import java.nio.file.Path;
 import java.util.Map;
 import java.util.TreeMap;
 import java.util.TreeSet;
 
 /** The class has the public face of the document and nothing else that others can use. */
 public final class FaceTest {
+    private static final Path SOURCE = Path.of("src/main/java/ProgramSchool.java");
+    private static final Path DOCUMENT = Path.of("../shared/DOC.md");
     private static final String CONSTANTS = "NONE=-1 NO_FAULT=0 SIGN=1 NUMBER=2 UNEXPECTED=3 NESTED=4 NAMES=5 DOUBLE=6"
             + " UNKNOWN=7 COUNT=8 DONE=0 FUEL=1 OVERFLOW=2 DIVISION=3 CELL=4 INPUT=5 OUTPUT=6 DEPTH=7";
 
@@ -22,8 +27,9 @@ public final class FaceTest {
         "int clear(int) I S", "int doubt(int) I"
     };
 
-    public static void main(String[] args) throws IllegalAccessException {
+    public static void main(String[] args) throws IllegalAccessException, IOException {
         Class<?> school = ProgramSchool.class;
+        checkLines();
         Check.due("modifiers of the class", Modifier.PUBLIC | Modifier.FINAL, school.getModifiers());
         checkConstants(school);
         checkMethods(school);
@@ -37,6 +43,24 @@ public final class FaceTest {
             Check.due(inside + " is static", true, Modifier.isStatic(modifiers));
         }
         Check.end("FaceTest");
+    }
+
+    /** The face stands in the source line by line as in the document. */
+    private static void checkLines() throws IOException {
+        if (!Files.exists(DOCUMENT)) {
+            System.out.println("There is no " + DOCUMENT + ", so the lines of the face are not compared with it.");
+            return;
+        }
+        String source = Files.readString(SOURCE);
+        String document = Files.readString(DOCUMENT);
+        int start = document.indexOf("public final class");
+        int last = 0;
+        for (String line : document.substring(start, document.indexOf("```", start)).split("\n")) {
+            String due = line.endsWith(");") || line.endsWith("Exception;") ? line.substring(0, line.length() - 1) + " {" : line;
+            int place = source.indexOf(due + "\n");
+            Check.due("stands in the source, in the document's order: " + due, true, line.equals("}") || place > last);
+            last = Math.max(last, place);
+        }
     }
 
     private static void checkConstants(Class<?> school) throws IllegalAccessException {

@@ -9,6 +9,14 @@ final class Generator {
     private static final String[] BITS = {"if", "else", "while", "out", "in", "def", "return", "a", "b", "f", "1", "2147483648",
         "+", "-", "*", "<", "<=", "=", "==", "!=", "&&", "||", "&", "!", "#", "(", ")", "{", "}", ",", ";", "$", " ", "\n", "X"};
 
+    private static final String[] BLOCKS = {"if 1{", "while i<2{", "if in{}else{", "if 0{}else{"};
+    private static final String[] STATEMENTS = {"out E;", "out E;", "a=E;", "#1=E;", "#(E)=1;", "#f(E)=1;", "f(E);", "if E{}", "f(1);out E;"};
+    private static final String[] STATEMENTS_OF_DEF = {"return E;", "return E;", "while E{return E;}", "a=E;return a;", "if E{}return b;"};
+    private static final String[] OPENINGS = {"(", "(", "-", "!", "#", "f("};
+    private static final String[] BESIDE = {"1+", "(1)*", "-1+", "f(2)-", "!#1*"};
+    private static final String[] BEHIND = {"+1", "-(1)", "*f(1)", "/-1"};
+    private static final String[] INNERMOST = {"1", "a", "in", "b+1", "2147483647", "2147483648"};
+
     final Random random;
     private final StringBuilder text = new StringBuilder();
     private final int[] parameters = new int[DEFS.length];
@@ -36,14 +44,88 @@ final class Generator {
 
     /** A text of at most 300 signs; now and then with something spoilt. */
     String text(int spoiltPercent) {
-        String made = program();
+        String made = one();
         for (int i = 0; i < 20 && made.length() > 300; i++) {
-            made = program();
+            made = one();
         }
         if (chance(spoiltPercent)) {
             made = spoilt(made);
         }
         return made.length() > 300 ? made.substring(0, 300) : made;
+    }
+
+    private String one() {
+        if (chance(90)) {
+            return program();
+        }
+        switch (below(3)) {
+            case 0: return nested();
+            case 1: return named();
+            default: return doubled();
+        }
+    }
+
+    /** Levels in one another, about as many as there may be, with others beside them. */
+    private String nested() {
+        int levels = 5 + below(6);
+        int blocks = below(levels);
+        boolean isDef = blocks > 0 && chance(30);
+        String text = one(isDef ? STATEMENTS_OF_DEF : STATEMENTS, random).replace("E", deep(levels - blocks));
+        for (int i = 1; i < blocks; i++) {
+            text = one(BLOCKS, random) + text + (chance(30) ? "}i=i+1;" : "}");
+        }
+        return (isDef ? "def g(a,b){" + text + "}out g(1,2);" : blocks > 0 ? "if 1{" + text + "}" : text) + "def f(a){return a;}";
+    }
+
+    private String deep(int levels) {
+        String text = one(INNERMOST, random);
+        for (int i = 0; i < levels; i++) {
+            String opening = one(OPENINGS, random);
+            text = (chance(20) ? one(BESIDE, random) : "") + opening + text + (opening.endsWith("(") ? ")" : "")
+                    + (chance(20) ? one(BEHIND, random) : "");
+        }
+        return text;
+    }
+
+    /** Variables of a def and of the program outside of it, about as many as there may be. */
+    private String named() {
+        StringBuilder text = new StringBuilder();
+        int most = 6 + below(NAMES.length - 5);
+        if (chance(50)) {
+            assignments(text, most);
+        }
+        text.append("def f(");
+        int count = below(most + 1);
+        for (int i = 0; i < count; i++) {
+            text.append(i == 0 ? "" : ",").append(NAMES[i]);
+        }
+        text.append("){");
+        assignments(text, most);
+        text.append("return ").append(NAMES[below(most)]).append(";}");
+        assignments(text, most);
+        return text.toString();
+    }
+
+    private void assignments(StringBuilder text, int most) {
+        int count = below(9);
+        for (int i = 0; i < count; i++) {
+            text.append(NAMES[below(most)]).append('=').append(chance(20) ? "in" : NAMES[below(most)]).append(';');
+        }
+    }
+
+    /** Defs and parameters whose names may be those of others. */
+    private String doubled() {
+        StringBuilder text = new StringBuilder("a=2;");
+        int defs = 1 + below(4);
+        for (int i = 0; i < defs; i++) {
+            text.append("def ").append(one(NAMES, random)).append('(');
+            int count = below(4);
+            for (int j = 0; j < count; j++) {
+                text.append(j == 0 ? "" : ",").append(one(NAMES, random));
+            }
+            text.append("){").append(chance(50) ? "b=a+1;return b;" : "").append('}');
+        }
+        return text.append("out ").append(one(NAMES, random)).append(chance(50) ? "();" : "(a);").toString();
     }
 
     /** Bits of the language in any order. */

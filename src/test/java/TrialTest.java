@@ -23,6 +23,7 @@ public final class TrialTest {
         depth();
         fuelFirst();
         deepest();
+        longestWays();
         firstCalls();
         afterEarlyEnds();
         Check.end("TrialTest");
@@ -414,6 +415,14 @@ public final class TrialTest {
         ends("out f(10);def f(n){if n<1{return 1;}return " + inside + ";}", DEPTH, "");
         String sevens = "f(1,1,1,1,1,1,1,".repeat(7) + "n-1" + ")".repeat(7);
         run("out f(1,1,1,1,1,1,1,9);def f(a,b,c,d,e,g,h,n){if n<1{return n;}return " + sevens + ";}", 5000, 0, 0, DONE, 4734, "0");
+    }
+
+    /** As much stands between two takings of fuel as can: all the fuel has to be taken all the same. */
+    private static void longestWays() {
+        String arguments = "((((((0)))))),".repeat(7) + "((((((0))))))";
+        run("while 1{f(" + arguments + ");}def f(a,b,c,d,e,g,h,i){}", 5000, 0, 0, FUEL, 0, "");
+        run("while n<832{n=n+1;f(" + arguments + ");}out n;def f(a,b,c,d,e,g,h,i){}", 5000, 0, 0, DONE, 5, "832");
+        run("while n<832{n=n+1;f(" + arguments + ");}out n;def f(a,b,c,d,e,g,h,i){}", 4995, 0, 0, DONE, 0, "832");
     }
 
     /** Each call that needs the program reads the draft itself. */
