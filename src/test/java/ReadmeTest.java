@@ -1,5 +1,6 @@
 import java.io.File;
 import java.io.IOException;
+import java.lang.reflect.Field;
 import java.lang.reflect.Method;
 import java.lang.reflect.Modifier;
 import java.nio.file.DirectoryStream;
@@ -8,6 +9,7 @@ import java.nio.file.Path;
 import java.util.TreeSet;
 import java.util.regex.Matcher;
 import java.util.regex.Pattern;
+import javax.tools.JavaCompiler;
 import javax.tools.ToolProvider;
 
 /** README.md: its examples answer what stands behind them, and it names each call and each test. */
@@ -63,7 +65,7 @@ public final class ReadmeTest {
             }
         }
         String constants = "";
-        for (java.lang.reflect.Field field : ProgramSchool.class.getFields()) {
+        for (Field field : ProgramSchool.class.getFields()) {
             constants += "static final int " + field.getName() + " = ProgramSchool." + field.getName() + ";\n";
         }
         return "public final class " + EXAMPLE + " {\n" + constants + methods + "public static void run() {\n" + calls + "}\n}\n";
@@ -81,12 +83,17 @@ public final class ReadmeTest {
     }
 
     private static void runExample(String source) throws IOException, ReflectiveOperationException {
+        JavaCompiler compiler = ToolProvider.getSystemJavaCompiler();
+        if (compiler == null) {
+            System.out.println("This Java has no compiler in it, so the examples are not run.");
+            return;
+        }
         // Beside the other classes, so that it is of their package.
         String classes = System.getProperty("java.class.path").split(File.pathSeparator)[0];
         Path folder = Files.createTempDirectory("readme");
         Path file = folder.resolve(EXAMPLE + ".java");
         Files.writeString(file, source);
-        int failed = ToolProvider.getSystemJavaCompiler().run(null, null, null, "-cp", classes, "-d", classes, file.toString());
+        int failed = compiler.run(null, null, null, "-cp", classes, "-d", classes, file.toString());
         Check.due("the examples compile", 0, failed);
         if (failed == 0) {
             Class.forName(EXAMPLE).getMethod("run").invoke(null);
